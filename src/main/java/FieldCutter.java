@@ -254,12 +254,12 @@ public final class FieldCutter {
         if (!fields.has(field) || history.now().examplesOf(field) == 0) {
             return NONE;
         }
-        return learnNow(history.begin(), field);
+        history.begin();
+        return keepLearnt(field, whatIsLearntNow(field));
     }
 
-    private int learnNow(State state, int field) {
-        Learnt learnt = whatIsLearntNow(field);
-        state.learnt[field] = learnt;
+    private int keepLearnt(int field, Learnt learnt) {
+        history.now().learnt[field] = learnt;
         tally.forget();
         return learnt.rules.length;
     }
@@ -287,7 +287,7 @@ public final class FieldCutter {
         next.starts[spot] = starts;
         next.ends[spot] = ends;
         forgetFindings();
-        return learnNow(next, field);
+        return keepLearnt(field, whatIsLearntNow(field));
     }
 
     /** The latest ACT is taken back, if there is one. */
@@ -1201,26 +1201,29 @@ public final class FieldCutter {
         private boolean findPart(long rule, int since) {
             from = since;
             int far = itemOf(rule, 0);
-            if (far != NONE && !goBehind(standing(far, from), 1)) {
-                return false;
+            if (far != NONE) {
+                long found = standing(far, from);
+                if (found == 0) {
+                    return false;
+                }
+                from = lowest(found) + 1;
             }
             int near = itemOf(rule, 1);
-            int second = itemOf(rule, 2);
-            if (near != NONE && second == NONE && !goBehind(standing(near, from), 1)) {
-                return false;
-            }
-            if (second != NONE && !goBehind(standing(near, from) & standing(second, from) >>> 1, 2)) {
-                return false;
+            if (near != NONE) {
+                int second = itemOf(rule, 2);
+                long found = standing(near, from);
+                if (second != NONE) {
+                    found &= standing(second, from) >>> 1;
+                }
+                if (found == 0) {
+                    return false;
+                }
+                from = lowest(found) + (second == NONE ? 1 : 2);
             }
             int stop = itemOf(rule, 3);
             long stops = stop == NONE ? 1L << end : standing(stop, from + 1);
             to = lowest(stops);
             return from < end && stops != 0;
-        }
-
-        private boolean goBehind(long found, int steps) {
-            from = lowest(found) + steps;
-            return found != 0;
         }
 
         /** What a RULE that cut this was, if these are the MARK's parts. */

@@ -1,3 +1,5 @@
+import java.util.ArrayList;
+import java.util.List;
 import java.util.Random;
 
 /** Runs of calls, drawn from fixed seeds, on FieldCutter and on the Model side by side. */
@@ -42,6 +44,24 @@ public final class ModelTest {
         return below(12) == 0 ? below(n + 4) - 2 : below(Math.max(1, n));
     }
 
+    /** Mostly a FIELD that is LEARNT, if there is one. */
+    private int someField() {
+        int f = near(x.about(0));
+        for (int k = 0; k < 3 && (x.about(4) >> Math.max(0, f) & 1) == 0; k++) {
+            f = near(x.about(0));
+        }
+        return f;
+    }
+
+    /** Mostly an EXAMPLE of a FIELD, if it has one. */
+    private int someExample(int f) {
+        int p = near(x.about(1));
+        for (int k = 0; k < 4 && (x.field(f, 2) >> Math.max(0, p) & 1) == 0; k++) {
+            p = near(x.about(1));
+        }
+        return p;
+    }
+
     private void same(String call, long got, long want) {
         calls++;
         if (story.length() < 60000) {
@@ -60,6 +80,8 @@ public final class ModelTest {
     private String text(boolean faulty) {
         StringBuilder s = new StringBuilder();
         int fields = 1 + below(4);
+        newTemplate();
+        slots.clear();
         String[] names = {"a", "price", "rowrow", "abcdefg"};
         for (int f = 0; f < fields; f++) {
             s.append("field ").append(names[f]);
@@ -104,8 +126,49 @@ public final class ModelTest {
     }
 
     private int longest = 9;
+    private int[] template = new int[0];
+    /** Of each PAGE told where its slots lie: only a hint for marks that rules can be learnt from. */
+    private final List<List<int[]>> slots = new ArrayList<>();
+
+    private void newTemplate() {
+        template = new int[below(3) == 0 ? 0 : 3 + below(5)];
+        for (int i = 0; i < template.length; i++) {
+            template[i] = below(9);
+        }
+    }
+
+    /** A page like the others of its template: landmarks, and slots of words, numbers or both. */
+    private String alikePage(List<int[]> spans) {
+        String[] marks = {"name", "cost", ":", "#", "page"};
+        String[] fill = {"apple", "pear", "12", "7", "=", "305"};
+        List<String> row = new ArrayList<>();
+        for (int t : template) {
+            if (t < 5) {
+                row.add(marks[t]);
+            } else {
+                int size = below(5) == 0 ? 2 + below(2) : 1;
+                spans.add(new int[] {row.size(), row.size() + size});
+                for (int k = 0; k < size; k++) {
+                    int odd = below(8) == 0 ? below(6) : -1;
+                    row.add(fill[odd >= 0 ? odd : t == 5 ? below(2) : t == 6 ? 2 + below(2) : t == 7 ? below(4) : 2]);
+                }
+            }
+            if (below(12) == 0) {
+                row.add(marks[below(5)]);
+            }
+        }
+        if (row.isEmpty()) {
+            row.add("x");
+        }
+        return "page " + String.join(" ", row) + " end;";
+    }
 
     private String pageText() {
+        List<int[]> spans = new ArrayList<>();
+        slots.add(spans);
+        if (template.length > 0) {
+            return alikePage(spans);
+        }
         String[] words = {"x", "name", "12", "7", ":", ",", "-", "of", "page", "3", "apple", "#"};
         int kinds = 3 + below(words.length - 3);
         int size = 1 + below(longest);
@@ -144,7 +207,7 @@ public final class ModelTest {
     private void play(boolean faulty) {
         longest = 3 + below(14);
         newBook(faulty);
-        int steps = 30 + below(60);
+        int steps = 30 + below(80);
         for (int k = 0; k < steps && !wrong && calls < 3000; k++) {
             int kind = below(40);
             if (kind == 0) {
@@ -175,7 +238,7 @@ public final class ModelTest {
     private void act() {
         int p = near(x.about(1));
         int f = near(x.about(0));
-        switch (below(10)) {
+        switch (below(11)) {
             case 0:
                 same("undo()", b(x.undo()), b(y.undo()));
                 break;
@@ -190,6 +253,7 @@ public final class ModelTest {
                 same("learn(" + f + ")", x.learn(f), y.learn(f));
                 break;
             case 5:
+                f = someField();
                 same("take(" + p + "," + f + ")", x.take(p, f), y.take(p, f));
                 break;
             case 6:
@@ -220,6 +284,10 @@ public final class ModelTest {
             int z = x.marked(p, parent, 0, 1);
             from = a + below(z - a);
             to = from + 1 + below(z - from);
+        } else if (p >= 0 && p < slots.size() && !slots.get(p).isEmpty() && below(8) > 0) {
+            int[] span = slots.get(p).get(Math.max(0, f) % slots.get(p).size());
+            from = span[0];
+            to = span[1];
         } else if (below(3) == 0) {
             to = from + 1 + below(9);
         }
@@ -257,8 +325,8 @@ public final class ModelTest {
     }
 
     private void ask(int which) {
-        int p = near(x.about(1));
-        int f = near(x.about(0));
+        int f = someField();
+        int p = which < 10 || which > 28 ? someExample(f) : near(x.about(1));
         int i = below(6) - 1;
         int w = near(3);
         String at = "(" + p + "," + f + "," + i + "," + w + ")";
@@ -289,7 +357,7 @@ public final class ModelTest {
                 break;
             case 8:
             case 9:
-                int o = near(x.about(1));
+                int o = someExample(f);
                 same("contradict(" + f + "," + p + "," + o + ")", x.contradict(f, p, o), y.contradict(f, p, o));
                 break;
             case 10: same("stale(" + f + ")", x.stale(f), y.stale(f)); break;
