@@ -278,15 +278,24 @@ final class Model {
     }
 
     private static int kind(String token) {
-        return token.matches("[a-z]+") ? 0 : token.matches("[0-9]+") ? 1 : 2;
+        char c = token.charAt(0);
+        return c >= 'a' && c <= 'z' ? 0 : c >= '0' && c <= '9' ? 1 : 2;
     }
 
+    private List<List<String>> countedPages = List.of();
+    private List<String> counted = List.of();
+
+    /** All unlike TOKENS by their NUMBERS; found again when there are other PAGES. */
     private List<String> unlike() {
-        LinkedHashSet<String> all = new LinkedHashSet<>();
-        for (List<String> page : now.pages) {
-            all.addAll(page);
+        if (!countedPages.equals(now.pages)) {
+            LinkedHashSet<String> all = new LinkedHashSet<>();
+            for (List<String> page : now.pages) {
+                all.addAll(page);
+            }
+            counted = new ArrayList<>(all);
+            countedPages = List.copyOf(now.pages);
         }
-        return new ArrayList<>(all);
+        return counted;
     }
 
     private List<Integer> examples(int f) {

@@ -15,6 +15,7 @@ public final class PromiseTest {
     public static void main(String[] args) {
         newObject();
         tape();
+        tapeCutOff();
         books();
         pages();
         faultsOfFields();
@@ -25,6 +26,7 @@ public final class PromiseTest {
         marks();
         marksWithin();
         unmarks();
+        fourDeep();
         learning();
         taking();
         acts();
@@ -35,6 +37,8 @@ public final class PromiseTest {
         could();
         covers();
         coverOrder();
+        coverTies();
+        foundAnew();
         contradictions();
         stale();
         cuts();
@@ -107,6 +111,27 @@ public final class PromiseTest {
         due("its place", x.fault(1), 11);
     }
 
+    /** What lies on the TAPE behind its end is not read. */
+    private static void tapeCutOff() {
+        FieldCutter x = new FieldCutter();
+        Due.tell(x, "page 12ab end;      ");
+        x.end(7);
+        due("page 12", x.book(), -1);
+        due("fault", x.fault(0), 2);
+        due("at the end", x.fault(1), 7);
+        Due.tell(x, "page 1234 end;      ");
+        x.end(7);
+        x.book();
+        due("page 12 again", x.fault(1), 7);
+        Due.tell(x, "field abcdef;       ");
+        x.end(8);
+        x.book();
+        due("field ab", x.fault(1), 8);
+        Due.tell(x, "page x end;page y en");
+        x.end(11);
+        due("one page", x.book(), 1);
+    }
+
     // Promise 4
     private static void books() {
         FieldCutter x = new FieldCutter();
@@ -169,6 +194,7 @@ public final class PromiseTest {
         due("fault(1) at the end", x.fault(1), 0);
         Due.tell(x, "field b;");
         due("a field", x.page(), -1);
+        due("fault(0)", x.fault(0), 2);
         due("fault(1)", x.fault(1), 0);
         for (int p = 2; p < 6; p++) {
             Due.tell(x, "page q end;");
@@ -411,6 +437,22 @@ public final class PromiseTest {
         due("acts", x.about(5), 7);
     }
 
+    private static void fourDeep() {
+        FieldCutter x = Due.read("field a;field b of a;field c of b;field d of c;page p q r s t end;page u p q r v end;");
+        for (int f = 0; f < 4; f++) {
+            due("mark " + f, x.mark(0, f, f, 5), 1);
+        }
+        for (int f = 3; f >= 0; f--) {
+            due("learn " + f, x.learn(f), 1);
+        }
+        due("parent", x.field(3, 0), 2);
+        due("from", x.cut(0, 3, 0, 0), 3);
+        due("to", x.cut(0, 3, 0, 1), 5);
+        due("from", x.cut(1, 3, 0, 0), 4);
+        due("u alone may go", x.sturdy(1, 3), 1);
+        due("all four", x.unmark(0, 0), 4);
+    }
+
     // Promise 12
     private static void learning() {
         FieldCutter x = Due.read(PLAIN);
@@ -602,7 +644,7 @@ public final class PromiseTest {
         due("once", x.tries(0, 0, -1, -1, -1, 4), 2);
         // Far is looked for again, too: behind : there is [1,3), then no : is found.
         due("far again", x.tries(0, 1, 3, -1, -1, 4), 2);
-        FieldCutter y = Due.read("field it many;page a 1 a 2 a 3 a 4 a 5 a 6 a 7 a 8 a 9 end;");
+        FieldCutter y = Due.read("field it many;page a 1 a 2 a 3 a 4 a 5 a 6 a 7 a 8 a 9 a 10 end;");
         for (int k = 0; k < 7; k++) {
             y.mark(0, 0, 2 * k + 1, 2 * k + 2);
         }
@@ -702,6 +744,71 @@ public final class PromiseTest {
         due("on page 0", x.covers(0, 0, 5), 1);
     }
 
+    private static void coverTies() {
+        // One rule for both: : behind a number. The number stands far, as a kind: 3 and 2.
+        FieldCutter x = Due.read("field v;page a : : 1 x : 5 end;page b : : 2 y : 6 end;");
+        x.mark(0, 0, 6, 7);
+        x.mark(1, 0, 6, 7);
+        due("one rule", x.cover(0, 0), 1);
+        due("cost", x.cover(0, 1), 5);
+        due("far a number", x.covers(0, 0, 0), 1);
+        due("near :", x.covers(0, 0, 1), 4);
+        // Near a word, stop a (pages 0 and 2), then near a, stop b; or near a, stop a word (pages 0 and
+        // 1), then near b, stop a: 9 together each; near a word is ahead of near a.
+        x = Due.read("field v;page a 12 a end;page c a 12 b end;page b 12 12 a end;");
+        x.mark(0, 0, 1, 2);
+        x.mark(1, 0, 2, 3);
+        x.mark(2, 0, 1, 3);
+        due("two rules", x.cover(0, 0), 2);
+        due("cost", x.cover(0, 1), 9);
+        due("near", x.covers(0, 0, 1), 0);
+        due("stop", x.covers(0, 0, 3), 3);
+        due("right on", x.covers(0, 0, 5), 5);
+        due("near", x.covers(0, 1, 1), 3);
+        due("stop", x.covers(0, 1, 3), 6);
+        due("right on", x.covers(0, 1, 5), 2);
+    }
+
+    /** What was found ahead of an ACT is not told behind it. */
+    private static void foundAnew() {
+        FieldCutter x = Due.read(PLAIN);
+        x.mark(0, 0, 2, 3);
+        due("could", x.could(0, 0), 15);
+        due("votes", x.opinion(1, 0, 1), 8);
+        x.image(0);
+        x.unmark(0, 0);
+        due("unmarked", x.could(0, 0), 0);
+        due("no opinions", x.opinion(1, 0, 0), 0);
+        x.undo();
+        due("undone", x.could(0, 0), 15);
+        due("two opinions", x.opinion(1, 0, 0), 2);
+        x.redo();
+        due("redone", x.could(0, 0), 0);
+        due("no opinions", x.opinion(1, 0, 0), 0);
+        x.back(0);
+        due("as kept", x.could(0, 0), 15);
+        due("two opinions", x.opinion(1, 0, 0), 2);
+        x.mark(1, 0, 2, 4);
+        // Of page 1 those that name b: far alone, far with each near, first of two with each second.
+        due("of two examples", x.could(0, 0), 20);
+        Due.tell(x, PLAIN);
+        x.book();
+        due("a new book", x.could(0, 0), 0);
+        due("no opinions", x.opinion(1, 0, 0), 0);
+        x = Due.read(NEST);
+        x.mark(0, 0, 2, 5);
+        x.mark(0, 1, 4, 5);
+        due("no region", x.opinion(1, 1, 2), 0);
+        x.learn(0);
+        due("a region, the parent being learnt", x.opinion(1, 1, 2), 1);
+        x = Due.read("field v;page a : 1 end;page b : 2 end;");
+        x.mark(0, 0, 2, 3);
+        x.learn(0);
+        due("of one example", x.could(0, 0), 15);
+        due("take", x.take(1, 0), 1);
+        due("of two", x.could(0, 0), 20);
+    }
+
     // Promise 22
     private static void contradictions() {
         FieldCutter x = Due.read("field v;page a b end;page a b end;page a : 1 end;");
@@ -736,6 +843,18 @@ public final class PromiseTest {
         due("no example", x.stale(0), -1);
         due("no such field", x.stale(1), -1);
         due("no such field", x.stale(-1), -1);
+        // Another rule, or one more, of the same shape.
+        x = Due.read("field v;page a : 1 end;page b # 2 end;");
+        x.mark(0, 0, 2, 3);
+        x.learn(0);
+        x.unmark(0, 0);
+        x.mark(1, 0, 2, 3);
+        due("another rule", x.stale(0), 1);
+        x = Due.read(TURNED);
+        x.mark(0, 0, 3, 4);
+        x.learn(0);
+        x.mark(2, 0, 1, 2);
+        due("one rule more", x.stale(0), 1);
         // Like rules and lengths and kinds of ends, another pattern.
         x = Due.read("field v;page : 1 a 1 . end;page : 2 3 2 . end;");
         x.mark(0, 0, 1, 4);
@@ -930,6 +1049,14 @@ public final class PromiseTest {
         x.learn(0);
         due("both parts", x.cut(1, 0, -1, 0), 2);
         due("the least", x.drift(1, 0), 2);
+        Due.tell(x, "page : 2 2 . : a . end;");
+        x.page();
+        due("the least, the other way round", x.drift(2, 0), 2);
+        x = Due.read(CLASH);
+        x.mark(0, 0, 0, 1);
+        x.mark(1, 0, 1, 2);
+        x.learn(0);
+        due("page 0 is strange", x.strange(0), 0);
     }
 
     // Promise 32
