@@ -22,6 +22,7 @@ public final class CoverTest {
             test.play();
             several += test.x.cover(0, 0) > 1 ? 1 : 0;
         }
+        new CoverTest(0).manyOpinions();
         Due.due("enough covers of several rules", several > runs / 5, true);
         Due.finish("CoverTest");
     }
@@ -85,6 +86,32 @@ public final class CoverTest {
             }
         }
         ask(pages);
+    }
+
+    /** Each far word leads to two begins on the last page, each begin to one end a stop. */
+    private void manyOpinions() {
+        StringBuilder far = new StringBuilder();
+        StringBuilder last = new StringBuilder();
+        for (char c = 'a'; c <= 'l'; c++) {
+            far.append("u").append(c).append(' ');
+            last.append("u").append(c).append("#:");
+        }
+        text = "field v;page " + far + ":7 s end;page " + far + ":8 z end;page " + far + ":9 y end;page "
+                + last + "p s z y end;";
+        tell(text);
+        due("book()", x.book(), y.book());
+        for (int p = 0; p < 3; p++) {
+            due("mark", x.mark(p, 0, 13, 14), y.mark(p, 0, 13, 14));
+        }
+        due("learn", x.learn(0), y.learn(0));
+        Due.due("many opinions", x.opinion(3, 0, 0) > 70, true);
+        for (int p = 0; p < 4; p++) {
+            for (int what = 0; what < 5; what++) {
+                due("opinion " + p + " " + what, x.opinion(p, 0, what), y.opinion(p, 0, what));
+            }
+            due("proposed " + p, x.proposed(p, 0, 0, 0), y.proposed(p, 0, 0, 0));
+        }
+        due("next", x.next(0), y.next(0));
     }
 
     private void ask(int pages) {

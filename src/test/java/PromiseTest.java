@@ -26,6 +26,7 @@ public final class PromiseTest {
         marks();
         marksWithin();
         unmarks();
+        sixPages();
         fourDeep();
         learning();
         taking();
@@ -435,6 +436,21 @@ public final class PromiseTest {
         due("as it was", x.about(3), 6);
         due("the middle", x.unmark(0, 1), 3);
         due("acts", x.about(5), 7);
+    }
+
+    /** A page behind the last one is none, whatever the next field has. */
+    private static void sixPages() {
+        FieldCutter x = Due.read("field a;field b;page 1 end;page 2 end;page 3 end;page 4 end;page 5 end;page 6 end;");
+        due("mark", x.mark(0, 1, 0, 1), 1);
+        due("mark", x.mark(5, 0, 0, 1), 1);
+        due("unmark", x.unmark(6, 0), -1);
+        due("without", x.without(6, 0), -1);
+        due("contradict", x.contradict(0, 5, 6), -1);
+        due("tries", x.tries(6, 0, -1, -1, -1, -1), -1);
+        due("marked", x.marked(6, 0, -1, 0), -1);
+        due("examples of a", x.field(0, 2), 32);
+        due("examples of b", x.field(1, 2), 1);
+        due("the sixth page's number", x.token(5, 0, 1), 5);
     }
 
     private static void fourDeep() {
